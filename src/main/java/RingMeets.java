@@ -11,7 +11,7 @@ public final class RingMeets {
     private static final int MOST_RULES = 10, MOST_PLACES = 5, MOST_NUMBER = 10;
     private static final int IMAGES = 2;
 
-    /** The two sides, as does(cell, 0) and gap(cell, what, i) tell them. */
+    /** The two sides, numbered as gap(cell, what, i) asks for their GAPS. */
     private static final int UP = 0, DOWN = 1;
 
     /** The parts of a RULE, in the order in which of(rule, what) tells them. */
@@ -110,9 +110,6 @@ public final class RingMeets {
         if (how < 0 || how > 2 || number < 1 || number > MOST_NUMBER || done < WAIT || done > FLEE) {
             return OUTSIDE;
         }
-        if (now.rules.size >= MOST_RULES) {
-            return FULL;
-        }
         return now.rules.append(stands, place, how, number, done);
     }
 
@@ -196,11 +193,12 @@ public final class RingMeets {
     // ---- 3 meeting
 
     public int meets(int schedule, int what) {
-        if (!isSchedule(schedule) || what < 0 || what > 4) {
+        if (what < 0 || what > 4) {
             return OUTSIDE;
         }
-        if (now.stands() == 0) {
-            return STATE;
+        int refused = refusalFromNow(schedule);
+        if (refused != 0) {
+            return refused;
         }
         Walks from = walksFromNow(schedule, false);
         from.walk();
@@ -219,11 +217,9 @@ public final class RingMeets {
     }
 
     public int first(int schedule) {
-        if (!isSchedule(schedule)) {
-            return OUTSIDE;
-        }
-        if (now.stands() == 0) {
-            return STATE;
+        int refused = refusalFromNow(schedule);
+        if (refused != 0) {
+            return refused;
         }
         Walks from = walksFromNow(schedule, false);
         from.walk();
@@ -231,11 +227,9 @@ public final class RingMeets {
     }
 
     public int blind(int schedule) {
-        if (!isSchedule(schedule)) {
-            return OUTSIDE;
-        }
-        if (now.stands() == 0) {
-            return STATE;
+        int refused = refusalFromNow(schedule);
+        if (refused != 0) {
+            return refused;
         }
         Walks from = walksFromNow(schedule, true);
         from.walk();
@@ -243,11 +237,9 @@ public final class RingMeets {
     }
 
     public int used(int schedule) {
-        if (!isSchedule(schedule)) {
-            return OUTSIDE;
-        }
-        if (now.stands() == 0) {
-            return STATE;
+        int refused = refusalFromNow(schedule);
+        if (refused != 0) {
+            return refused;
         }
         Walks from = walksFromNow(schedule, false);
         from.walk();
@@ -328,6 +320,14 @@ public final class RingMeets {
 
     private static boolean isSchedule(int schedule) {
         return schedule >= ONE && schedule <= ANY;
+    }
+
+    /** What a call that looks from now on answers when it is refused; 0: it is not. */
+    private int refusalFromNow(int schedule) {
+        if (!isSchedule(schedule)) {
+            return OUTSIDE;
+        }
+        return now.stands() == 0 ? STATE : 0;
     }
 
     private Walks newWalks(int schedule, boolean blindly) {
@@ -493,6 +493,7 @@ public final class RingMeets {
             }
         }
 
+        /** The number of the RULE that is added; FULL, if there is no room. */
         int append(int stands, int place, int how, int number, int done) {
             if (size >= MOST_RULES) {
                 return FULL;
@@ -790,8 +791,8 @@ public final class RingMeets {
                     addStepsFrom(at);
                 }
             }
-            findSoon();
-            findLate();
+            tellBackwards(soon, false);
+            tellBackwards(late, true);
         }
 
         private int towersSeen(int way) {
@@ -833,36 +834,28 @@ public final class RingMeets {
             steps++;
         }
 
-        private void findSoon() {
-            lineUpWhatHasMet(soon);
+        /**
+         * A WAY's SOON is told by the first one of the WAYS behind it that is told, its LATE by the
+         * last one: the line is in the order of what is told, so the last one is the latest.
+         */
+        private void tellBackwards(int[] told, boolean byLast) {
+            lineUpWhatHasMet(told);
             for (int i = 0; i < lineSize && i < MOST_WAYS; i++) {
                 int to = line[i];
                 int step = lastStepTo[to];
                 for (int turn = 0; turn < steps && isStep(step); turn++) {
                     int from = stepFrom[step];
-                    if (soon[from] == NONE) {
-                        lineUp(soon, from, soon[to] + 1);
+                    if (byLast ? isLastStepOf(from) : told[from] == NONE) {
+                        lineUp(told, from, told[to] + 1);
                     }
                     step = earlierStep[step];
                 }
             }
         }
 
-        /** The line is in the order of LATE, so the last one of the WAYS behind a WAY is the latest. */
-        private void findLate() {
-            lineUpWhatHasMet(late);
-            for (int i = 0; i < lineSize && i < MOST_WAYS; i++) {
-                int to = line[i];
-                int step = lastStepTo[to];
-                for (int turn = 0; turn < steps && isStep(step); turn++) {
-                    int from = stepFrom[step];
-                    stepsLeft[from]--;
-                    if (stepsLeft[from] == 0) {
-                        lineUp(late, from, late[to] + 1);
-                    }
-                    step = earlierStep[step];
-                }
-            }
+        private boolean isLastStepOf(int from) {
+            stepsLeft[from]--;
+            return stepsLeft[from] == 0;
         }
 
         private boolean isStep(int step) {

@@ -126,6 +126,8 @@ final class RingTest {
         shape("all of three", on(3, 0, 1, 2), 1, 1, 0, 3, 1, 1);
         shape("two beside", on(5, 0, 1), 0, 1, 0, 0, 1, 5);
         shape("two afar", on(10, 2, 7), 1, 1, 0, 2, 1, 5);
+        shape("two afar, of CELL 0", on(6, 0, 3), 1, 1, 0, 2, 1, 3);
+        shape("two afar, of the last CELL", on(6, 2, 5), 1, 1, 0, 2, 1, 3);
         shape("rigid", on(7, 0, 1, 3), 0, 0, 1, 0, 3, 7);
         shape("mirrored", on(8, 0, 3, 5), 0, 1, 0, 1, 2, 8);
         shape("pairs", on(10, 0, 1, 5, 6), 1, 1, 0, 0, 1, 5);
