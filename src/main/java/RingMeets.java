@@ -480,7 +480,7 @@ public final class RingMeets {
         private int size;
 
         boolean has(int rule) {
-            return rule >= 0 && rule < size;
+            return rule >= 0 && rule < size && rule < MOST_RULES;
         }
 
         int part(int rule, int what) {
@@ -513,7 +513,7 @@ public final class RingMeets {
             if (!has(rule)) {
                 return;
             }
-            for (int i = rule * PARTS; i < (size - 1) * PARTS; i++) {
+            for (int i = rule * PARTS; i < (size - 1) * PARTS && i + PARTS < told.length; i++) {
                 told[i] = told[i + PARTS];
             }
             size--;
@@ -842,10 +842,10 @@ public final class RingMeets {
             lineUpWhatHasMet(told);
             for (int i = 0; i < lineSize && i < MOST_WAYS; i++) {
                 int to = line[i];
-                int step = lastStepTo[to];
+                int step = isWay(to) ? lastStepTo[to] : -1;
                 for (int turn = 0; turn < steps && isStep(step); turn++) {
                     int from = stepFrom[step];
-                    if (byLast ? isLastStepOf(from) : told[from] == NONE) {
+                    if (byLast ? isLastStepOf(from) : isWay(from) && told[from] == NONE) {
                         lineUp(told, from, told[to] + 1);
                     }
                     step = earlierStep[step];
@@ -854,6 +854,9 @@ public final class RingMeets {
         }
 
         private boolean isLastStepOf(int from) {
+            if (!isWay(from)) {
+                return false;
+            }
             stepsLeft[from]--;
             return stepsLeft[from] == 0;
         }
@@ -900,7 +903,7 @@ public final class RingMeets {
 
         int leastSetTowardsMeeting(int at) {
             int left = soonOf(at);
-            if (left == NONE || left == 0) {
+            if (!isWay(at) || left == NONE || left == 0) {
                 return NONE;
             }
             moves.from(rules, cells, Sets.standsOf(ways[at]), towersSeen(ways[at]));

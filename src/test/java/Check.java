@@ -26,6 +26,10 @@ final class Check {
         return wrong;
     }
 
+    static int asked() {
+        return asked;
+    }
+
     static void end() {
         System.out.println(asked + " asked, " + wrong + " wrong");
         if (wrong != 0) {
