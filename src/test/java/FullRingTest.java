@@ -1,3 +1,5 @@
+import java.lang.reflect.Field;
+
 /** Five WALKERS on ten CELLS: the most WAYS and STEPS that there can be, and the most calls. */
 final class FullRingTest {
     private static final int ANY = 2;
@@ -12,11 +14,12 @@ final class FullRingTest {
     private FullRingTest() {
     }
 
-    public static void main(String[] args) {
+    public static void main(String[] args) throws ReflectiveOperationException {
         for (int[][] list : LISTS) {
             likeModel(list);
         }
         allThatCan();
+        roomForAll();
         manyCalls();
         Check.end();
     }
@@ -71,6 +74,37 @@ final class FullRingTest {
         int[] states = {ANY, 3};
         Check.due("STATES that can come", x.meets(ANY, 3), model.call("meets", states));
         Check.holds("they are many", x.meets(ANY, 3) > 1900);
+    }
+
+    /**
+     * A look inside, as no answer tells it: a STEP that found no room would be lost in silence,
+     * and most that are lost have a turned like that leads to the same answer.
+     */
+    private static void roomForAll() throws ReflectiveOperationException {
+        RingMeets x = new RingMeets();
+        x.ring(10);
+        x.rule(0, 0, 0, 2, 2);
+        x.rule(0, 0, 2, 1, 1);
+        x.all(5, ANY, 3);
+        Object walks = inside(x, "walks");
+        Check.due("WAYS that are kept", (Integer) inside(walks, "size"), 252 + 210 * 4 + 120 * 6 + 45 * 3 + 10);
+        Check.due("STEPS that are kept", (Integer) inside(walks, "steps"),
+                252 * 31 + 210 * 4 * 15 + 120 * 6 * 7 + 45 * 3 * 3);
+        int kept = 0;
+        for (int way = 0; way < (Integer) inside(walks, "size"); way++) {
+            int step = ((int[]) inside(walks, "lastStepTo"))[way];
+            while (step >= 0) {
+                kept++;
+                step = ((int[]) inside(walks, "earlierStep"))[step];
+            }
+        }
+        Check.due("STEPS in chains", kept, (Integer) inside(walks, "steps"));
+    }
+
+    private static Object inside(Object object, String name) throws ReflectiveOperationException {
+        Field field = object.getClass().getDeclaredField(name);
+        field.setAccessible(true);
+        return field.get(object);
     }
 
     private static void manyCalls() {
